@@ -44,8 +44,9 @@ public final class RustFamily {
     private final Sight sight;
     private final Keepers keepers;
     private final Game match;
-    private final Odds odds;
-    private final Course course;
+    /** What lived() tells of the latest live(). */
+    private final int[] latestLived;
+    private boolean hasLived;
 
     public RustFamily() {
         status = FINE;
@@ -65,8 +66,8 @@ public final class RustFamily {
         sight = new Sight();
         keepers = new Keepers();
         match = new Game();
-        odds = new Odds();
-        course = new Course();
+        latestLived = new int[5];
+        hasLived = false;
     }
 
     public int status() {
@@ -163,7 +164,7 @@ public final class RustFamily {
             return NONE;
         }
         text.open(n);
-        if (!FamilyText.take(text, spare)) {
+        if (!Reader.takeFamily(text, spare)) {
             status = HAS_FAULT;
             return NONE;
         }
@@ -179,7 +180,7 @@ public final class RustFamily {
             return NONE;
         }
         text.open(n);
-        if (!PlanText.take(text, family, sparePlan)) {
+        if (!Reader.takePlan(text, family, sparePlan)) {
             status = HAS_FAULT;
             return NONE;
         }
@@ -491,7 +492,7 @@ public final class RustFamily {
     // ---- oil, less love
 
     public int jars(int thing, int n) {
-        status = !isThing(thing) ? NO_SUCH_ONE : !isWithin(n, 0, 8) ? BAD_NUMBER : FINE;
+        status = !isThing(thing) ? NO_SUCH_ONE : !isWithin(n, 0, Ahead.MOST_JARRED) ? BAD_NUMBER : FINE;
         if (status != FINE) {
             return NONE;
         }
@@ -499,7 +500,7 @@ public final class RustFamily {
     }
 
     public int jarsFor(int things, int n) {
-        status = isSet(things, family.things) && isWithin(n, 0, 8) ? FINE : BAD_NUMBER;
+        status = isSet(things, family.things) && isWithin(n, 0, Ahead.MOST_JARRED) ? FINE : BAD_NUMBER;
         if (status != FINE) {
             return NONE;
         }
@@ -656,8 +657,8 @@ public final class RustFamily {
         if (status != FINE) {
             return false;
         }
-        odds.spread(family, thing, n);
-        tell(odds.waysToLast(family.items[thing], family.items[thing].thick), odds.all);
+        ahead.spread(family, thing, n);
+        tell(ahead.waysToLast(family.items[thing], family.items[thing].thick), ahead.allWays);
         return true;
     }
 
@@ -667,9 +668,9 @@ public final class RustFamily {
         if (status != FINE) {
             return NONE;
         }
-        odds.spread(family, thing, n);
+        ahead.spread(family, thing, n);
         for (int thick = 1; thick <= 999; thick++) {
-            if (10L * odds.waysToLast(family.items[thing], thick) >= (long) tenths * odds.all) {
+            if (10L * ahead.waysToLast(family.items[thing], thick) >= (long) tenths * ahead.allWays) {
                 return thick;
             }
         }
@@ -702,7 +703,7 @@ public final class RustFamily {
     }
 
     private int oddsStatus(int thing, int n) {
-        return !isThing(thing) ? NO_SUCH_ONE : !isWithin(n, 0, Odds.MOST_YEARS) ? BAD_NUMBER : FINE;
+        return !isThing(thing) ? NO_SUCH_ONE : !isWithin(n, 0, Ahead.MOST_DRAWN) ? BAD_NUMBER : FINE;
     }
 
     private void tell(long part, long whole) {
@@ -733,19 +734,22 @@ public final class RustFamily {
         int through = family.throughSet();
         int living = family.livingSet();
         int year = family.year;
-        course.run(family, family.plan, seed);
-        course.keepTold(family.year - year,
-            Integer.bitCount(family.throughSet() & ~through),
-            Integer.bitCount(living & ~family.livingSet()));
-        return course.done;
+        family.plan.run(family, seed);
+        latestLived[0] = family.plan.missed;
+        latestLived[1] = family.year - year;
+        latestLived[2] = Integer.bitCount(family.throughSet() & ~through);
+        latestLived[3] = Integer.bitCount(living & ~family.livingSet());
+        latestLived[4] = family.plan.isLeft() ? 1 : 0;
+        hasLived = true;
+        return family.plan.done;
     }
 
     public int lived(int what) {
-        status = !isWithin(what, 0, 4) ? BAD_NUMBER : course.hasTold ? FINE : THERE_IS_NONE;
+        status = !isWithin(what, 0, 4) ? BAD_NUMBER : hasLived ? FINE : THERE_IS_NONE;
         if (status != FINE) {
             return NONE;
         }
-        return course.told[what];
+        return latestLived[what];
     }
 
     public boolean mean(int seed, int many) {
@@ -758,7 +762,7 @@ public final class RustFamily {
         int all = 0;
         for (int i = 0; i < many; i++) {
             spare.copyPeopleAndThings(family);
-            course.run(spare, family.plan, seed + i);
+            family.plan.run(spare, seed + i);
             all += spare.allRust();
         }
         tell(all, many);
@@ -782,15 +786,15 @@ public final class RustFamily {
     }
 
     public int back() {
-        status = marks < 1 ? THERE_IS_NONE : FINE;
-        if (status != FINE) {
-            return NONE;
+        Family latest = marks > 0 ? marked[marks - 1] : null;
+        if (latest == null) {
+            return orNone(NONE);
         }
+        status = FINE;
         marks--;
-        // Exchanged, not copied: the row that was left is written anew by the next mark().
-        Family old = family;
-        family = marked[marks];
-        marked[marks] = old;
+        // Exchanged, not copied: what is left there is written anew by the next mark().
+        marked[marks] = family;
+        family = latest;
         return marks;
     }
 
@@ -917,6 +921,11 @@ public final class RustFamily {
 
     /** The FAMILY with all that became of it, and its YEARS. */
     private static final class Family {
+        static final int SHOWS_WITHOUT = 40;
+        static final int LIFE_WITHOUT = 70;
+        static final int DAMP_WITHOUT = 4;
+        static final int BREATH_WITHOUT = 3;
+
         int people;
         int things;
         int shows;
@@ -929,10 +938,10 @@ public final class RustFamily {
         Plan plan;
 
         Family() {
-            shows = 40;
-            life = 70;
-            damp = 4;
-            breath = 3;
+            shows = SHOWS_WITHOUT;
+            life = LIFE_WITHOUT;
+            damp = DAMP_WITHOUT;
+            breath = BREATH_WITHOUT;
             persons = new Person[PEOPLE_LIMIT];
             for (int i = 0; i < PEOPLE_LIMIT; i++) {
                 persons[i] = new Person();
@@ -1065,7 +1074,11 @@ public final class RustFamily {
             return all;
         }
 
-        void passYears(int years) {
+        /** False, if these YEARS as a whole can't go by. */
+        boolean passYears(int years) {
+            if (year + years > LAST_YEAR) {
+                return false;
+            }
             int left = years;
             for (int i = 0; i < years && livingSet() != 0; i++) {
                 passYear();
@@ -1076,6 +1089,7 @@ public final class RustFamily {
                 items[i].oil = Math.max(0, items[i].oil - left);
             }
             year += years;
+            return true;
         }
 
         private void passYear() {
@@ -1212,10 +1226,6 @@ public final class RustFamily {
             return true;
         }
 
-        boolean isName() {
-            return kind == WORD && size <= NAME_LIMIT && !isReserved();
-        }
-
         private boolean isReserved() {
             return is("shows") || is("life") || is("damp") || is("breath") || is("person") || is("age")
                 || is("of") || is("thing") || is("thick") || is("coat") || is("loves") || is("year")
@@ -1253,7 +1263,7 @@ public final class RustFamily {
 
         /** Takes a NAME, if it is such a one as may stand here (told from its letters, ahead of the call). */
         boolean takeName(boolean suits) {
-            if (!isName()) {
+            if (kind != WORD || size > NAME_LIMIT || isReserved()) {
                 return refuse(2);
             }
             if (!suits) {
@@ -1264,9 +1274,9 @@ public final class RustFamily {
         }
     }
 
-    /** Reads a FAMILY from its text. */
-    private static final class FamilyText {
-        static boolean take(Text text, Family family) {
+    /** Reads a FAMILY, and YEARS, from their texts. */
+    private static final class Reader {
+        static boolean takeFamily(Text text, Family family) {
             clear(family);
             // Each PART takes three bytes or more.
             for (int parts = 0; parts <= TAPE_LIMIT; parts++) {
@@ -1274,7 +1284,11 @@ public final class RustFamily {
                     setDefaults(family);
                     return true;
                 }
-                if (!takePart(text, family)) {
+                boolean fine = text.is("person") ? takePerson(text, family)
+                    : text.is("thing") ? takeThing(text, family)
+                    : text.is("loves") ? takeLove(text, family)
+                    : takeRule(text, family);
+                if (!fine) {
                     return false;
                 }
             }
@@ -1294,41 +1308,30 @@ public final class RustFamily {
         }
 
         private static void setDefaults(Family family) {
-            family.shows = family.shows == NONE ? 40 : family.shows;
-            family.life = family.life == NONE ? 70 : family.life;
-            family.damp = family.damp == NONE ? 4 : family.damp;
-            family.breath = family.breath == NONE ? 3 : family.breath;
-        }
-
-        private static boolean takePart(Text text, Family family) {
-            return text.is("person") ? takePerson(text, family)
-                : text.is("thing") ? takeThing(text, family)
-                : text.is("loves") ? takeLove(text, family)
-                : takeRule(text, family);
+            family.shows = family.shows == NONE ? Family.SHOWS_WITHOUT : family.shows;
+            family.life = family.life == NONE ? Family.LIFE_WITHOUT : family.life;
+            family.damp = family.damp == NONE ? Family.DAMP_WITHOUT : family.damp;
+            family.breath = family.breath == NONE ? Family.BREATH_WITHOUT : family.breath;
         }
 
         private static boolean takeRule(Text text, Family family) {
+            boolean fine;
             if (text.is("shows")) {
-                boolean fine = takeOnce(text, family.shows, 0, 99);
+                fine = takeOnce(text, family.shows, 0, 99);
                 family.shows = text.amount;
-                return fine;
-            }
-            if (text.is("life")) {
-                boolean fine = takeOnce(text, family.life, 1, 120);
+            } else if (text.is("life")) {
+                fine = takeOnce(text, family.life, 1, 120);
                 family.life = text.amount;
-                return fine;
-            }
-            if (text.is("damp")) {
-                boolean fine = takeOnce(text, family.damp, 0, 9);
+            } else if (text.is("damp")) {
+                fine = takeOnce(text, family.damp, 0, 9);
                 family.damp = text.amount;
-                return fine;
-            }
-            if (text.is("breath")) {
-                boolean fine = takeOnce(text, family.breath, 0, 99);
+            } else if (text.is("breath")) {
+                fine = takeOnce(text, family.breath, 0, 99);
                 family.breath = text.amount;
-                return fine;
+            } else {
+                fine = text.refuse(2);
             }
-            return text.refuse(2);
+            return fine;
         }
 
         private static boolean takeOnce(Text text, int old, int least, int most) {
@@ -1401,12 +1404,139 @@ public final class RustFamily {
             family.persons[person].love[thing] = text.amount;
             return true;
         }
+
+        static boolean takePlan(Text text, Family family, Plan plan) {
+            plan.clear();
+            // Each STEP, each end takes four bytes or more.
+            for (int i = 0; i <= PLAN_LIMIT; i++) {
+                if (text.kind == Text.END) {
+                    plan.told = plan.latestOpen() == NONE;
+                    return plan.told || text.refuse(2);
+                }
+                boolean fine = text.is("end") ? closeBlock(text, plan)
+                    : text.is("when") ? openStep(text, plan, Plan.WHEN_THROUGH) && takeTest(text, family, plan)
+                    : openStep(text, plan, stepKind(text)) && takeRest(text, family, plan);
+                if (!fine || !text.takeEndSign()) {
+                    return false;
+                }
+            }
+            return false;
+        }
+
+        private static boolean closeBlock(Text text, Plan plan) {
+            int open = plan.latestOpen();
+            if (open == NONE) {
+                return text.refuse(2);
+            }
+            plan.past[open] = plan.steps;
+            text.advance();
+            return true;
+        }
+
+        private static int stepKind(Text text) {
+            return text.is("year") ? Plan.YEAR
+                : text.is("oil") ? Plan.OIL
+                : text.is("loves") ? Plan.LOVES
+                : text.is("damp") ? Plan.DAMP
+                : text.is("coat") ? Plan.COAT
+                : text.is("mend") ? Plan.MEND
+                : text.is("any") ? Plan.ANY
+                : text.is("stop") ? Plan.STOP
+                : text.is("loop") ? Plan.LOOP
+                : NONE;
+        }
+
+        private static boolean openStep(Text text, Plan plan, int kind) {
+            if (kind == NONE) {
+                return text.refuse(2);
+            }
+            if (plan.steps >= Plan.STEPS_LIMIT) {
+                return text.refuse(6);
+            }
+            boolean block = kind >= Plan.LOOP;
+            if (block && plan.openBlocks() >= Plan.DEPTH_LIMIT) {
+                return text.refuse(7);
+            }
+            plan.kind[plan.steps] = kind;
+            plan.past[plan.steps] = block ? NONE : plan.steps + 1;
+            plan.steps++;
+            text.advance();
+            return true;
+        }
+
+        private static boolean takeRest(Text text, Family family, Plan plan) {
+            switch (plan.kind[plan.steps - 1]) {
+                case Plan.YEAR:
+                    return takeMuch(text, plan, 1, 20);
+                case Plan.DAMP:
+                    return takeMuch(text, plan, 0, 9);
+                case Plan.LOOP:
+                    return takeMuch(text, plan, 1, 99);
+                case Plan.OIL:
+                case Plan.MEND:
+                    return takeThingName(text, family, plan);
+                case Plan.COAT:
+                    return takeThingName(text, family, plan) && takeMuch(text, plan, 1, 99);
+                case Plan.LOVES:
+                    return takePersonName(text, family, plan) && takeThingName(text, family, plan)
+                        && takeMuch(text, plan, 0, 9);
+                default:
+                    return true;
+            }
+        }
+
+        private static boolean takeTest(Text text, Family family, Plan plan) {
+            if (text.is("through")) {
+                text.advance();
+                return takeThingName(text, family, plan);
+            }
+            if (text.is("shows")) {
+                text.advance();
+                plan.kind[plan.steps - 1] = Plan.WHEN_SHOWS;
+                return takePersonName(text, family, plan);
+            }
+            if (text.is("rust")) {
+                text.advance();
+                return takeThingName(text, family, plan) && takeCompares(text, plan) && takeMuch(text, plan, 0, 999);
+            }
+            return text.refuse(2);
+        }
+
+        private static boolean takeCompares(Text text, Plan plan) {
+            if (text.kind != Text.SIGN || text.value == ';') {
+                return text.refuse(2);
+            }
+            plan.kind[plan.steps - 1] = text.value == '<' ? Plan.WHEN_LESS
+                : text.value == '>' ? Plan.WHEN_MORE
+                : Plan.WHEN_SAME;
+            text.advance();
+            return true;
+        }
+
+        private static boolean takeMuch(Text text, Plan plan, int least, int most) {
+            boolean fine = text.takeNumber(least, most);
+            plan.much[plan.steps - 1] = text.amount;
+            return fine;
+        }
+
+        private static boolean takePersonName(Text text, Family family, Plan plan) {
+            int person = family.personNamed(text.letters);
+            plan.person[plan.steps - 1] = person;
+            return text.takeName(person != NONE);
+        }
+
+        private static boolean takeThingName(Text text, Family family, Plan plan) {
+            int thing = family.thingNamed(text.letters);
+            plan.thing[plan.steps - 1] = thing;
+            return text.takeName(thing != NONE);
+        }
     }
 
-    /** The YEARS that are told, STEP by STEP. */
+    /** The YEARS that are told, STEP by STEP, and how they are LIVED. */
     private static final class Plan {
         static final int STEPS_LIMIT = 30;
         static final int DEPTH_LIMIT = 3;
+        static final int LIVED_LIMIT = 300;
         static final int YEAR = 0;
         static final int OIL = 1;
         static final int LOVES = 2;
@@ -1415,6 +1545,7 @@ public final class RustFamily {
         static final int MEND = 5;
         static final int ANY = 6;
         static final int STOP = 7;
+        /** From here on kinds that have STEPS of their own, behind them to their end. */
         static final int LOOP = 8;
         static final int WHEN_THROUGH = 9;
         static final int WHEN_SHOWS = 10;
@@ -1430,6 +1561,13 @@ public final class RustFamily {
         final int[] much;
         /** Of when and loop the STEP behind their end, NONE as long as that was not read. */
         final int[] past;
+        int done;
+        int missed;
+        private int drawn;
+        private int at;
+        private final int[] loops;
+        private final int[] rounds;
+        private int depth;
 
         Plan() {
             kind = new int[STEPS_LIMIT];
@@ -1437,6 +1575,8 @@ public final class RustFamily {
             thing = new int[STEPS_LIMIT];
             much = new int[STEPS_LIMIT];
             past = new int[STEPS_LIMIT];
+            loops = new int[DEPTH_LIMIT];
+            rounds = new int[DEPTH_LIMIT];
         }
 
         void clear() {
@@ -1472,148 +1612,146 @@ public final class RustFamily {
             }
             return NONE;
         }
-    }
 
-    /** Reads YEARS from their text. */
-    private static final class PlanText {
-        static boolean take(Text text, Family family, Plan plan) {
-            plan.clear();
-            // Each STEP, each end takes four bytes or more.
-            for (int i = 0; i <= PLAN_LIMIT; i++) {
-                if (text.kind == Text.END) {
-                    plan.told = plan.latestOpen() == NONE;
-                    return plan.told || text.refuse(2);
+        void run(Family family, int seed) {
+            drawn = seed;
+            done = 0;
+            missed = 0;
+            at = 0;
+            depth = 0;
+            for (int i = 0; i < LIVED_LIMIT && at < steps; i++) {
+                done++;
+                if (kind[at] == STOP) {
+                    depth = 0;
+                    at = steps;
+                } else if (kind[at] == LOOP) {
+                    enterLoop();
+                } else if (kind[at] > LOOP) {
+                    at = holds(family) ? at + 1 : past[at];
+                } else {
+                    missed += act(family) ? 0 : 1;
+                    at++;
                 }
-                boolean fine = text.is("end") ? takeEnd(text, plan) : takeStep(text, family, plan);
-                if (!fine) {
-                    return false;
+                goRound();
+            }
+        }
+
+        /** Whether the latest run() ended ahead of its end: stop goes there, too. */
+        boolean isLeft() {
+            return at < steps;
+        }
+
+        /** A loop without STEPS is passed by: going round in it does nothing. */
+        private void enterLoop() {
+            if (past[at] > at + 1 && depth < DEPTH_LIMIT) {
+                loops[depth] = at;
+                rounds[depth] = much[at];
+                depth++;
+            }
+            at++;
+        }
+
+        /** At the end of loops: back to the first STEP of the innermost that is not over. */
+        private void goRound() {
+            for (int i = depth - 1; i >= 0 && past[loops[i]] == at; i--) {
+                rounds[i]--;
+                if (rounds[i] > 0) {
+                    at = loops[i] + 1;
+                    return;
                 }
-            }
-            return false;
-        }
-
-        private static boolean takeEnd(Text text, Plan plan) {
-            int open = plan.latestOpen();
-            if (open == NONE) {
-                return text.refuse(2);
-            }
-            plan.past[open] = plan.steps;
-            text.advance();
-            return text.takeEndSign();
-        }
-
-        private static boolean takeStep(Text text, Family family, Plan plan) {
-            boolean when = text.is("when");
-            boolean block = when || text.is("loop");
-            int kind = when ? Plan.WHEN_THROUGH : stepKind(text);
-            if (kind == NONE) {
-                return text.refuse(2);
-            }
-            if (plan.steps >= Plan.STEPS_LIMIT) {
-                return text.refuse(6);
-            }
-            if (block && plan.openBlocks() >= Plan.DEPTH_LIMIT) {
-                return text.refuse(7);
-            }
-            int step = plan.steps;
-            plan.kind[step] = kind;
-            plan.past[step] = block ? NONE : step + 1;
-            plan.steps++;
-            text.advance();
-            boolean fine = when ? takeTest(text, family, plan, step) : takeRest(text, family, plan, step);
-            return fine && text.takeEndSign();
-        }
-
-        private static int stepKind(Text text) {
-            return text.is("year") ? Plan.YEAR
-                : text.is("oil") ? Plan.OIL
-                : text.is("loves") ? Plan.LOVES
-                : text.is("damp") ? Plan.DAMP
-                : text.is("coat") ? Plan.COAT
-                : text.is("mend") ? Plan.MEND
-                : text.is("any") ? Plan.ANY
-                : text.is("stop") ? Plan.STOP
-                : text.is("loop") ? Plan.LOOP
-                : NONE;
-        }
-
-        private static boolean takeRest(Text text, Family family, Plan plan, int step) {
-            switch (plan.kind[step]) {
-                case Plan.YEAR:
-                    return takeMuch(text, plan, step, 1, 20);
-                case Plan.DAMP:
-                    return takeMuch(text, plan, step, 0, 9);
-                case Plan.LOOP:
-                    return takeMuch(text, plan, step, 1, 99);
-                case Plan.OIL:
-                case Plan.MEND:
-                    return takeThing(text, family, plan, step);
-                case Plan.COAT:
-                    return takeThing(text, family, plan, step) && takeMuch(text, plan, step, 1, 99);
-                case Plan.LOVES:
-                    return takePerson(text, family, plan, step) && takeThing(text, family, plan, step)
-                        && takeMuch(text, plan, step, 0, 9);
-                default:
-                    return true;
+                depth = i;
             }
         }
 
-        private static boolean takeTest(Text text, Family family, Plan plan, int step) {
-            if (text.is("through")) {
-                text.advance();
-                return takeThing(text, family, plan, step);
+        private boolean holds(Family family) {
+            if (kind[at] == WHEN_SHOWS) {
+                return family.showsAhead(person[at], 0);
             }
-            if (text.is("shows")) {
-                text.advance();
-                plan.kind[step] = Plan.WHEN_SHOWS;
-                return takePerson(text, family, plan, step);
+            Thing one = family.items[thing[at]];
+            switch (kind[at]) {
+                case WHEN_LESS: return one.rust < much[at];
+                case WHEN_MORE: return one.rust > much[at];
+                case WHEN_SAME: return one.rust == much[at];
+                default: return one.isThrough();
             }
-            if (text.is("rust")) {
-                text.advance();
-                return takeThing(text, family, plan, step) && takeCompares(text, plan, step)
-                    && takeMuch(text, plan, step, 0, 999);
-            }
-            return text.refuse(2);
         }
 
-        private static boolean takeCompares(Text text, Plan plan, int step) {
-            if (text.kind != Text.SIGN || text.value == ';') {
-                return text.refuse(2);
+        /** Whether it could be; else the STEP is MISSED. */
+        private boolean act(Family family) {
+            switch (kind[at]) {
+                case YEAR: return family.passYears(much[at]);
+                case DAMP: return actDamp(family, much[at]);
+                case LOVES: return actLove(family.persons[person[at]], thing[at], much[at]);
+                case ANY: return actAny(family);
+                default: return actOn(family.items[thing[at]], kind[at], much[at]);
             }
-            plan.kind[step] = text.value == '<' ? Plan.WHEN_LESS
-                : text.value == '>' ? Plan.WHEN_MORE
-                : Plan.WHEN_SAME;
-            text.advance();
+        }
+
+        private static boolean actDamp(Family family, int damp) {
+            boolean isNew = family.damp != damp;
+            family.damp = damp;
+            return isNew;
+        }
+
+        private static boolean actLove(Person person, int thing, int much) {
+            boolean isNew = person.love[thing] != much;
+            person.love[thing] = much;
+            return isNew;
+        }
+
+        private boolean actAny(Family family) {
+            if (family.things < 1) {
+                return false;
+            }
+            family.damp = draw(10);
+            Thing one = family.items[draw(family.things)];
+            if (one.isThrough()) {
+                return false;
+            }
+            one.takeBreath(family.breath);
             return true;
         }
 
-        private static boolean takeMuch(Text text, Plan plan, int step, int least, int most) {
-            boolean fine = text.takeNumber(least, most);
-            plan.much[step] = text.amount;
-            return fine;
+        private static boolean actOn(Thing one, int kind, int much) {
+            if (one.isThrough()) {
+                return false;
+            }
+            if (kind == OIL) {
+                one.putOil();
+            } else if (kind == COAT) {
+                one.putCoat(much);
+            } else {
+                one.halveRust();
+            }
+            return true;
         }
 
-        private static boolean takePerson(Text text, Family family, Plan plan, int step) {
-            int person = family.personNamed(text.letters);
-            plan.person[step] = person;
-            return text.takeName(person != NONE);
-        }
-
-        private static boolean takeThing(Text text, Family family, Plan plan, int step) {
-            int thing = family.thingNamed(text.letters);
-            plan.thing[step] = thing;
-            return text.takeName(thing != NONE);
+        private int draw(int by) {
+            drawn = (drawn * 2971 + 10831) % 65536;
+            return drawn / 8 % by;
         }
     }
 
     /** What becomes of one THING as only YEARS go by. */
     private static final class Ahead {
+        static final int MOST_JARRED = 8;
+        static final int MOST_DRAWN = 6;
+        private static final int DAMPS = 10;
+        /** The most that PEOPLE who love it by 9 can bite off in a YEAR of DAMP 9. */
+        private static final int MOST_BITE = PEOPLE_LIMIT * 9 * 9 / 4;
+
+        /** In how many ways the DAMPS of spread() can be. */
+        int allWays;
         private final Thing then;
         private final int[] savings;
+        /** By how much is bitten off in all YEARS together, at most: in how many of these ways. */
+        private final int[] waysUpTo;
+        private int mostBitten;
 
         Ahead() {
             then = new Thing();
-            savings = new int[8];
+            savings = new int[MOST_JARRED];
+            waysUpTo = new int[MOST_DRAWN * MOST_BITE + 1];
         }
 
         /** In how many YEARS, so many at most, it is THROUGH first, or NONE, if a PERSON's love was less by so much. */
@@ -1680,6 +1818,41 @@ public final class RustFamily {
             int saved = savings[best];
             savings[best] = 0;
             return saved;
+        }
+
+        void spread(Family family, int thing, int n) {
+            allWays = 1;
+            mostBitten = 0;
+            waysUpTo[0] = 1;
+            for (int i = 0; i < n; i++) {
+                spreadYear(family.lovedAhead(thing, i + 1), family.items[thing].oil > i);
+                allWays *= DAMPS;
+            }
+            for (int bitten = 1; bitten <= mostBitten; bitten++) {
+                waysUpTo[bitten] += waysUpTo[bitten - 1];
+            }
+        }
+
+        private void spreadYear(int loved, boolean oiled) {
+            int before = mostBitten;
+            mostBitten += Thing.biteBy(loved, DAMPS - 1, oiled);
+            // From above, so that what is read is still that of a YEAR less.
+            for (int bitten = mostBitten; bitten >= 0; bitten--) {
+                int ways = 0;
+                for (int damp = 0; damp < DAMPS; damp++) {
+                    int rest = bitten - Thing.biteBy(loved, damp, oiled);
+                    if (rest >= 0 && rest <= before) {
+                        ways += waysUpTo[rest];
+                    }
+                }
+                waysUpTo[bitten] = ways;
+            }
+        }
+
+        /** Of all ways those by which it is not THROUGH, if it was so thick: THROUGH it stays, whatever bites more. */
+        int waysToLast(Thing one, int thick) {
+            int bearable = one.coat + thick - one.rust - 1;
+            return one.rust >= thick ? 0 : waysUpTo[Math.min(bearable, mostBitten)];
         }
     }
 
@@ -2042,227 +2215,6 @@ public final class RustFamily {
             for (int side = 0; side < 2; side++) {
                 boards[2 * behind + side].passYear(loved[2 * behind + side], family.damp);
             }
-        }
-    }
-
-    /** How likely it is that a THING lasts. */
-    private static final class Odds {
-        static final int MOST_YEARS = 6;
-        private static final int DAMPS = 10;
-        /** The most that PEOPLE who love it by 9 can bite off in a YEAR of DAMP 9. */
-        private static final int MOST_BITE = PEOPLE_LIMIT * 9 * 9 / 4;
-
-        int all;
-        /** By how much is bitten off in all YEARS together, at most: in how many ways the DAMPS can be. */
-        private final int[] waysUpTo;
-        private int most;
-
-        Odds() {
-            waysUpTo = new int[MOST_YEARS * MOST_BITE + 1];
-        }
-
-        void spread(Family family, int thing, int n) {
-            all = 1;
-            most = 0;
-            waysUpTo[0] = 1;
-            for (int i = 0; i < n; i++) {
-                spreadYear(family.lovedAhead(thing, i + 1), family.items[thing].oil > i);
-                all *= DAMPS;
-            }
-            for (int bitten = 1; bitten <= most; bitten++) {
-                waysUpTo[bitten] += waysUpTo[bitten - 1];
-            }
-        }
-
-        private void spreadYear(int loved, boolean oiled) {
-            int before = most;
-            most += Thing.biteBy(loved, DAMPS - 1, oiled);
-            // From above, so that what is read is still that of a YEAR less.
-            for (int bitten = most; bitten >= 0; bitten--) {
-                int ways = 0;
-                for (int damp = 0; damp < DAMPS; damp++) {
-                    int rest = bitten - Thing.biteBy(loved, damp, oiled);
-                    if (rest >= 0 && rest <= before) {
-                        ways += waysUpTo[rest];
-                    }
-                }
-                waysUpTo[bitten] = ways;
-            }
-        }
-
-        /** Of all ways those by which it is not THROUGH, if it was so thick: THROUGH it stays, whatever bites more. */
-        int waysToLast(Thing one, int thick) {
-            int bearable = one.coat + thick - one.rust - 1;
-            return one.rust >= thick ? 0 : waysUpTo[Math.min(bearable, most)];
-        }
-    }
-
-    /** LIVED: the YEARS that are told, by draws. */
-    private static final class Course {
-        static final int STEPS_LIMIT = 300;
-
-        int done;
-        boolean hasTold;
-        final int[] told;
-        private int missed;
-        private boolean isLeft;
-        private int drawn;
-        private int at;
-        private final int[] loops;
-        private final int[] rounds;
-        private int depth;
-
-        Course() {
-            told = new int[5];
-            loops = new int[Plan.DEPTH_LIMIT];
-            rounds = new int[Plan.DEPTH_LIMIT];
-        }
-
-        void keepTold(int years, int through, int died) {
-            hasTold = true;
-            told[0] = missed;
-            told[1] = years;
-            told[2] = through;
-            told[3] = died;
-            told[4] = isLeft ? 1 : 0;
-        }
-
-        void run(Family family, Plan plan, int seed) {
-            drawn = seed;
-            done = 0;
-            missed = 0;
-            at = 0;
-            depth = 0;
-            for (int i = 0; i < STEPS_LIMIT; i++) {
-                goRound(plan);
-                if (at >= plan.steps) {
-                    break;
-                }
-                takeStep(family, plan);
-                done++;
-            }
-            goRound(plan);
-            isLeft = at < plan.steps;
-        }
-
-        /** At the end of loops: back to the first STEP of the innermost that is not over. */
-        private void goRound(Plan plan) {
-            for (int i = depth - 1; i >= 0; i--) {
-                if (plan.past[loops[i]] != at) {
-                    return;
-                }
-                rounds[i]--;
-                if (rounds[i] > 0) {
-                    at = loops[i] + 1;
-                    return;
-                }
-                depth = i;
-            }
-        }
-
-        private void takeStep(Family family, Plan plan) {
-            int kind = plan.kind[at];
-            if (kind == Plan.STOP) {
-                depth = 0;
-                at = plan.steps;
-            } else if (kind == Plan.LOOP) {
-                enterLoop(plan);
-            } else if (kind > Plan.LOOP) {
-                at = holds(family, plan) ? at + 1 : plan.past[at];
-            } else {
-                if (!act(family, plan)) {
-                    missed++;
-                }
-                at++;
-            }
-        }
-
-        /** A loop without STEPS is passed by: going round in it does nothing. */
-        private void enterLoop(Plan plan) {
-            if (plan.past[at] > at + 1 && depth < Plan.DEPTH_LIMIT) {
-                loops[depth] = at;
-                rounds[depth] = plan.much[at];
-                depth++;
-            }
-            at++;
-        }
-
-        private boolean holds(Family family, Plan plan) {
-            int much = plan.much[at];
-            if (plan.kind[at] == Plan.WHEN_SHOWS) {
-                return family.showsAhead(plan.person[at], 0);
-            }
-            Thing one = family.items[plan.thing[at]];
-            switch (plan.kind[at]) {
-                case Plan.WHEN_LESS: return one.rust < much;
-                case Plan.WHEN_MORE: return one.rust > much;
-                case Plan.WHEN_SAME: return one.rust == much;
-                default: return one.isThrough();
-            }
-        }
-
-        /** Whether it could be; else the STEP is MISSED. */
-        private boolean act(Family family, Plan plan) {
-            int much = plan.much[at];
-            switch (plan.kind[at]) {
-                case Plan.YEAR: return actYears(family, much);
-                case Plan.DAMP: return actDamp(family, much);
-                case Plan.LOVES: return actLove(family.persons[plan.person[at]], plan.thing[at], much);
-                case Plan.ANY: return actAny(family);
-                default: return actOn(family.items[plan.thing[at]], plan.kind[at], much);
-            }
-        }
-
-        private static boolean actYears(Family family, int years) {
-            if (family.year + years > LAST_YEAR) {
-                return false;
-            }
-            family.passYears(years);
-            return true;
-        }
-
-        private static boolean actDamp(Family family, int damp) {
-            boolean isNew = family.damp != damp;
-            family.damp = damp;
-            return isNew;
-        }
-
-        private static boolean actLove(Person person, int thing, int much) {
-            boolean isNew = person.love[thing] != much;
-            person.love[thing] = much;
-            return isNew;
-        }
-
-        private boolean actAny(Family family) {
-            if (family.things < 1) {
-                return false;
-            }
-            family.damp = draw(10);
-            Thing one = family.items[draw(family.things)];
-            if (one.isThrough()) {
-                return false;
-            }
-            one.takeBreath(family.breath);
-            return true;
-        }
-
-        private static boolean actOn(Thing one, int kind, int much) {
-            if (one.isThrough()) {
-                return false;
-            }
-            if (kind == Plan.OIL) {
-                one.putOil();
-            } else if (kind == Plan.COAT) {
-                one.putCoat(much);
-            } else {
-                one.halveRust();
-            }
-            return true;
-        }
-
-        private int draw(int by) {
-            drawn = (drawn * 2971 + 10831) % 65536;
-            return drawn / 8 % by;
         }
     }
 }
