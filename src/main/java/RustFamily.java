@@ -205,7 +205,7 @@ public final class RustFamily {
             case 5: return family.breath;
             case 6: return family.year;
             case 7: return family.livingSet();
-            case 8: return family.showingSet();
+            case 8: return family.showingSet(0);
             case 9: return family.throughSet();
             case 10: return family.oiledSet();
             case 11: return family.allRust();
@@ -543,7 +543,7 @@ public final class RustFamily {
         if (status != FINE) {
             return NONE;
         }
-        sight.look(family.showingSet(), trays[tray].numbers, n);
+        sight.look(family.showingSet(0), trays[tray].numbers, n);
         return sight.ways();
     }
 
@@ -555,7 +555,7 @@ public final class RustFamily {
         if (!family.showsAhead(person, 0)) {
             return orNone(NONE);
         }
-        sight.look(family.showingSet(), trays[tray].numbers, n);
+        sight.look(family.showingSet(0), trays[tray].numbers, n);
         return orNone(sight.onlyLove());
     }
 
@@ -564,7 +564,7 @@ public final class RustFamily {
         if (status != FINE) {
             return NONE;
         }
-        sight.look(family.showingSet(), trays[tray].numbers, n);
+        sight.look(family.showingSet(0), trays[tray].numbers, n);
         return orNone(sight.ways() < 2 ? NONE : sight.bestDamp());
     }
 
@@ -1015,31 +1015,34 @@ public final class RustFamily {
             return one.lives && one.of && then >= shows && (years == 0 || then < life);
         }
 
-        int lovedAhead(int thing, int years) {
-            int loved = 0;
-            for (int i = 0; i < people; i++) {
-                int love = persons[i].love[thing];
-                if (love > 0 && showsAhead(i, years)) {
-                    loved += love;
-                }
-            }
-            return loved;
-        }
-
-        int livingSet() {
+        int showingSet(int years) {
             int set = 0;
             for (int i = 0; i < people; i++) {
-                if (persons[i].lives) {
+                if (showsAhead(i, years)) {
                     set |= 1 << i;
                 }
             }
             return set;
         }
 
-        int showingSet() {
+        int lovedBy(int thing, int set) {
+            int loved = 0;
+            for (int i = 0; i < people; i++) {
+                if ((set >> i & 1) != 0) {
+                    loved += persons[i].love[thing];
+                }
+            }
+            return loved;
+        }
+
+        int lovedAhead(int thing, int years) {
+            return lovedBy(thing, showingSet(years));
+        }
+
+        int livingSet() {
             int set = 0;
             for (int i = 0; i < people; i++) {
-                if (showsAhead(i, 0)) {
+                if (persons[i].lives) {
                     set |= 1 << i;
                 }
             }
@@ -1099,8 +1102,9 @@ public final class RustFamily {
                     persons[i].lives = persons[i].age < life;
                 }
             }
+            int showing = showingSet(0);
             for (int i = 0; i < things; i++) {
-                items[i].passYear(lovedAhead(i, 0), damp);
+                items[i].passYear(lovedBy(i, showing), damp);
             }
         }
     }
@@ -1314,6 +1318,7 @@ public final class RustFamily {
             family.breath = family.breath == NONE ? Family.BREATH_WITHOUT : family.breath;
         }
 
+        /** What is set in spite of a FAULT is never seen: such a FAMILY is not taken. */
         private static boolean takeRule(Text text, Family family) {
             boolean fine;
             if (text.is("shows")) {
@@ -1761,8 +1766,9 @@ public final class RustFamily {
                 return 0;
             }
             for (int i = 1; i <= years; i++) {
-                int loved = family.lovedAhead(thing, i);
-                if (taken > 0 && family.showsAhead(person, i)) {
+                int showing = family.showingSet(i);
+                int loved = family.lovedBy(thing, showing);
+                if (taken > 0 && (showing >> person & 1) != 0) {
                     loved -= taken;
                 }
                 then.passYear(loved, family.damp);
