@@ -118,6 +118,8 @@ public final class AheadTest {
             + "loves a d 9;loves b d 5;loves c d 4;loves c e 9;");
         Check.fine(x, "33 in 1: c, who does 13", x.worst(1), 2);
         Check.fine(x, "33 in 50: the youngest", x.worst(50), 0);
+        x = Check.with("person a age 50 of;person b age 50 of;person c age 50 of;thing d thick 99;loves b d 3;loves c d 2;");
+        Check.fine(x, "33 the second", x.worst(5), 1);
         x = new RustFamily();
         Check.refused(x, "33 no people", x.worst(3), 8);
         Check.refused(x, "33 no people, in 51", x.worst(51), 5);

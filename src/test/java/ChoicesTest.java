@@ -109,6 +109,8 @@ public final class ChoicesTest {
         Check.fine(x, "39 all alike: the least", x.ask(0, 1), 1);
         x.write(0, 1, 9);
         Check.refused(x, "39 one way", x.ask(0, 1), 8);
+        RustFamily y = saw("person a age 50 of;", 2, 0);
+        Check.fine(y, "39 two ways", y.ask(0, 1), 4);
         x.write(0, 1, 10);
         Check.refused(x, "39 no way", x.ask(0, 1), 8);
         Check.refused(x, "39 no such tray", x.ask(4, 0), 1);
@@ -180,6 +182,8 @@ public final class ChoicesTest {
             + "loves a g 2;loves a h 1;loves b g 1;loves b h 2;");
         // Each what he loves most, or each what loves him least.
         Check.fine(x, "43 two ways", x.stables(3), 2);
+        x = Check.with("person a age 0;thing g thick 9;thing h thick 9;loves a g 1;");
+        Check.fine(x, "43 by 1, not by 0, nor nothing", x.stables(1), 1);
         x = Check.with(THREE + "person e age 0;");
         Check.fine(x, "43 four: 1 + 4 * 3 + 6 * 6 + 4 * 6", x.stables(30), 73);
         Check.refused(x, "43 five", x.stables(31), 5);
@@ -254,6 +258,7 @@ public final class ChoicesTest {
         // 10 at most: 64 of 100 (all but those of 11 and more: 36).
         Check.fine(x, "46 the coat", x.lasts(2, 2));
         Check.fraction(x, "46 the coat", 16, 25);
+        most();
         x.oil(0);
         // With oil 0 to 7: 3 at most.
         Check.fine(x, "46 oil", x.lasts(0, 1));
@@ -267,6 +272,29 @@ public final class ChoicesTest {
         Check.fine(x, "46 through", x.lasts(0, 0));
         Check.fraction(x, "46 through", 0, 1);
         Check.due("46 the damp stays", x.many(4), 4);
+    }
+
+    /** Six who love it by 9 in six YEARS: 121 at most in each. */
+    private static void most() {
+        RustFamily x = Check.with("thing g thick 726 coat 1;");
+        for (int i = 0; i < 6; i++) {
+            x.born(50, true);
+            x.dote(i, 0, 9);
+        }
+        Check.fine(x, "46 the most", x.lasts(0, 6));
+        Check.fraction(x, "46 the most", 1, 1);
+        Check.fine(x, "47 the most", x.thickFor(0, 6, 10), 726);
+        x = Check.with("thing g thick 726;");
+        for (int i = 0; i < 6; i++) {
+            x.born(50, true);
+            x.dote(i, 0, 9);
+        }
+        Check.fine(x, "46 all but one way", x.lasts(0, 6));
+        Check.fraction(x, "46 all but one way", 999999, 1000000);
+        Check.fine(x, "47 one more", x.thickFor(0, 6, 10), 727);
+        x = Check.with("life 52;person a age 50 of;thing g thick 1;loves a g 4;");
+        Check.fine(x, "46 he dies", x.lasts(0, 3));
+        Check.fraction(x, "46 a damp of 0 in one year alone", 1, 10);
     }
 
     private static void thickFor() {
@@ -302,6 +330,10 @@ public final class ChoicesTest {
         Check.fraction(x, "48 dan", 1, 2);
         Check.fine(x, "48 cyr", x.blame(2));
         Check.fraction(x, "48 cyr", 0, 1);
+        x.rule(2, 46);
+        Check.fine(x, "48 in whom it shows now", x.blame(0));
+        Check.fraction(x, "48 in whom it shows now", 0, 1);
+        x.rule(2, 40);
         x.year(3);
         Check.fine(x, "48 what is through, too", x.blame(1));
         Check.fraction(x, "48 ben", 2, 5);

@@ -199,8 +199,14 @@ public final class LifeTest {
         Check.refused(x, "53 there is none", x.back(), 8);
         Check.fine(x, "52 one", x.mark(), 1);
         x.year(2);
+        x.rule(2, 41);
+        x.rule(3, 71);
         x.rule(4, 9);
+        x.rule(5, 5);
         Check.fine(x, "52 two", x.mark(), 2);
+        x.rule(2, 42);
+        x.rule(3, 72);
+        x.rule(5, 6);
         x.dote(0, 0, 9);
         x.oil(0);
         x.coat(1, 7);
@@ -214,7 +220,7 @@ public final class LifeTest {
         Check.due("53 things", x.many(1), 3);
         Check.due("53 rust of the latest", x.thing(0, 2), 8 + 10);
         Check.fine(x, "53 one is left", x.back(), 1);
-        int[] due = {2, 2, 40, 70, 9, 3, 2, 3, 1, 0, 0, 8};
+        int[] due = {2, 2, 41, 71, 9, 5, 2, 3, 1, 0, 0, 8};
         for (int i = 0; i < due.length; i++) {
             Check.due("53 many " + i, x.many(i), due[i]);
         }
@@ -246,9 +252,11 @@ public final class LifeTest {
         Check.due("53 not the other's", Texts.years(x, "oil z;"), -1);
         Check.due("53 trays stay", x.read(0, 0), 5);
         x.mark();
-        Texts.years(x, "any;any;any;");
+        Texts.years(x, "loves a g 7;coat g 9;any;");
         x.back();
         Check.due("53 years alone", x.live(0), 2);
+        Check.due("53 by whom", x.love(1, 1), 1);
+        Check.due("53 to what", x.thing(0, 3), 3);
         x = Check.with(TWO);
         x.mark();
         Texts.years(x, "any;");

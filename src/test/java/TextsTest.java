@@ -10,6 +10,7 @@ public final class TextsTest {
         familyFaults();
         familyLimits();
         tokens();
+        names();
         years();
         yearsFaults();
         yearsLimits();
@@ -138,6 +139,8 @@ public final class TextsTest {
         Check.fine(x, "10 breath 0", x.many(5), 0);
         Check.fine(x, "10 thickest", x.thing(7, 0), 999);
         Check.fine(x, "10 the other edges", Texts.family(x, "shows 99;life 1;damp 9;breath 99;thing abcdefgh thick 1;"), 1);
+        Check.fine(x, "10 coats", Texts.family(x, "thing a thick 1 coat 0;thing b thick 1 coat 999;"), 2);
+        Check.fine(x, "10 the thickest coat", x.thing(1, 1), 999);
         Check.fault(x, six + "person a", 6, six.length());
         Check.fault(x, eight + "thing !", 6, eight.length());
     }
@@ -151,6 +154,25 @@ public final class TextsTest {
         Check.fine(x, "10 blanks", Texts.family(x, "\n \n thing\nb\n thick  9\n;\n"), 1);
         Check.fault(x, "personabe age 4;", 2, 0);
         Check.fault(x, "person ab4 age 4;", 2, 9);
+    }
+
+    private static void names() {
+        RustFamily x = new RustFamily();
+        String reserved = "shows life damp breath person age of thing thick coat loves year oil mend any when through rust"
+            + " loop end stop";
+        for (String word : reserved.split(" ")) {
+            Check.fault(x, "person " + word + " age 1;", 2, 7);
+            Check.fault(x, "thing " + word + " thick 1;", 2, 6);
+            Check.faultOfYears(x, "oil " + word + ";", 2, 4);
+        }
+        Check.fine(x, "10 unlike names", Texts.family(x, "thing zzzzzzzz thick 1;thing zzzzzzzy thick 2;thing z thick 3;"
+            + "thing zz thick 4;thing az thick 5;thing za thick 6;thing endz thick 7;thing en thick 8;"), 8);
+        Check.fine(x, "11 each by its own", Texts.years(x, "coat zzzzzzzz 1;coat zzzzzzzy 2;coat z 3;coat zz 4;coat az 5;"
+            + "coat za 6;coat endz 7;coat en 8;"), 8);
+        x.live(0);
+        for (int i = 0; i < 8; i++) {
+            Check.fine(x, "11 coat " + i, x.thing(i, 1), i + 1);
+        }
     }
 
     private static void years() {
@@ -209,7 +231,9 @@ public final class TextsTest {
         Check.faultOfYears(x, "loop 100;", 4, 5);
         // Nothing that was forged or born has a NAME.
         x.forge(4);
+        x.born(4, true);
         Check.faultOfYears(x, "oil a;", 3, 4);
+        Check.faultOfYears(x, "loves a gate 1;", 3, 6);
     }
 
     private static void yearsLimits() {
@@ -246,6 +270,7 @@ public final class TextsTest {
         Check.due("12 others, too", x.fault(-1), -1);
         x.years(0);
         Check.due("12 years, too", x.fault(0), 0);
+        Check.due("12 years, too, without a place", x.fault(1), -1);
     }
 
     private static void many() {
@@ -296,6 +321,9 @@ public final class TextsTest {
         Check.fine(x, "15 oil", x.thing(1, 3), 3);
         Check.fine(x, "15 half of 5", x.thing(1, 5), 2);
         x.rule(4, 4);
+        x.rule(2, 46);
+        Check.fine(x, "15 loved now, not in a year", x.thing(0, 4), 0);
+        x.rule(2, 40);
         x.year(9);
         Check.fine(x, "15 through", x.thing(2, 6), 1);
         Check.fine(x, "15 loved yet", x.thing(2, 4), 5);
