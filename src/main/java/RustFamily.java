@@ -572,13 +572,14 @@ public final class RustFamily {
         int lacking = trayStatus(tray);
         return lacking != FINE ? lacking
             : 2L * n > trays[tray].length ? NO_PLACE
-            : !isWithin(n, 0, 20) || !areDamps(trays[tray].numbers, n) ? BAD_NUMBER
+            : !isWithin(n, 0, 20) || !areTwos(trays[tray].numbers, n) ? BAD_NUMBER
             : FINE;
     }
 
-    private static boolean areDamps(long[] twos, int n) {
+    /** A BITE has no most: one above all that LOVED gives can be, only that no way gives it. */
+    private static boolean areTwos(long[] twos, int n) {
         for (int i = 0; i < n; i++) {
-            if (twos[2 * i] < 0 || twos[2 * i] > 9) {
+            if (twos[2 * i] < 0 || twos[2 * i] > 9 || twos[2 * i + 1] < 0) {
                 return false;
             }
         }

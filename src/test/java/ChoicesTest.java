@@ -64,9 +64,40 @@ public final class ChoicesTest {
         Check.fine(x, "37 not asked for", x.seen(0, 1), 12);
         x.write(0, 0, -1);
         Check.refused(x, "37 damp -1", x.seen(0, 1), 5);
+        seenBelowZero();
         x.tray(2, 0, 60);
         Check.fine(x, "37 20 twos", x.seen(2, 20), 64);
         Check.refused(x, "37 21 twos", x.seen(2, 21), 5);
+    }
+
+    /** A BITE is never below 0, and one that is above all that can be LOVED is only one that no way gives. */
+    private static void seenBelowZero() {
+        RustFamily x = saw(THREE, 4, 4, 0, -1, 4, 4);
+        Check.fine(x, "37 not asked for, below 0", x.seen(0, 1), 12);
+        Check.refused(x, "37 bite -1 by damp 0", x.seen(0, 2), 5);
+        Check.refused(x, "37 bite -1 among others", x.seen(0, 3), 5);
+        Check.refused(x, "37 too few before bite -1", x.seen(0, 4), 4);
+        Check.refused(x, "38 bite -1", x.sure(0, 0, 2), 5);
+        Check.refused(x, "38 bite -1, it does not show", x.sure(3, 0, 2), 5);
+        Check.refused(x, "38 bite -1, nobody", x.sure(4, 0, 2), 2);
+        Check.refused(x, "39 bite -1", x.ask(0, 2), 5);
+        x.write(0, 3, Short.MIN_VALUE);
+        Check.refused(x, "37 the least of 16 bits", x.seen(0, 2), 5);
+        x.write(0, 3, Short.MAX_VALUE);
+        Check.fine(x, "37 the most of 16 bits", x.seen(0, 2), 0);
+        x.tray(0, 0, 2);
+        x.write(0, 1, 4294967295L);
+        Check.refused(x, "37 cut to -1", x.seen(0, 1), 5);
+        x.tray(0, 3, 2);
+        x.write(0, 1, Long.MIN_VALUE);
+        Check.refused(x, "37 the least of 64 bits", x.seen(0, 1), 5);
+        Check.refused(x, "39 the least of 64 bits", x.ask(0, 1), 5);
+        x.write(0, 1, 4294967296L);
+        Check.fine(x, "37 above 32 bits", x.seen(0, 1), 0);
+        RustFamily y = new RustFamily();
+        y.tray(0, 2, 2);
+        y.write(0, 1, -1);
+        Check.refused(y, "37 bite -1, nobody there", y.seen(0, 1), 5);
     }
 
     private static void sure() {

@@ -244,7 +244,8 @@ public final class CompareTest {
         for (int i = 0; i < 4; i++) {
             int damp = in(0, 9);
             same &= pair.same("write", tray, 2 * i, (long) damp);
-            same &= pair.same("write", tray, 2 * i + 1, n(12) == 0 ? (long) in(0, 40) : (long) (sum * damp / 4));
+            same &= pair.same("write", tray, 2 * i + 1, n(12) == 0 ? (long) in(0, 40)
+                : n(40) == 0 ? -1L - n(3) : (long) (sum * damp / 4));
         }
         int n = in(0, 4);
         return same && pair.same("seen", tray, n) && pair.same("sure", person(), tray, n) && pair.same("ask", tray, n)

@@ -865,7 +865,7 @@ final class Model {
         no(4, 2L * n > trays[tray].length);
         range(n, 0, 20);
         for (int i = 0; i < n; i++) {
-            no(5, trays[tray][2 * i] < 0 || trays[tray][2 * i] > 9);
+            no(5, trays[tray][2 * i] < 0 || trays[tray][2 * i] > 9 || trays[tray][2 * i + 1] < 0);
         }
         List<int[]> all = new ArrayList<>();
         all.add(new int[6]);
