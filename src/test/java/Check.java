@@ -23,6 +23,14 @@ final class Check {
         due(what, got ? 1 : 0, want ? 1 : 0);
     }
 
+    static void same(String what, String got, String want) {
+        asked++;
+        if (!got.equals(want)) {
+            wrong++;
+            System.out.println(what + "\n  answered " + got + "\n  due is   " + want);
+        }
+    }
+
     /** NONE, and this STATUS. */
     static void refused(RustFamily x, String what, long got, int status) {
         due(what, got, RustFamily.NONE);
