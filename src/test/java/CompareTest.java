@@ -8,6 +8,9 @@ public final class CompareTest {
         "coat", "loves", "year", "oil", "mend", "any", "when", "through", "rust", "loop", "end", "stop", ";", "<", ">",
         "=", "0", "7", "12345", "!", "\n", "A"};
 
+    /** By so many calls more sameState() asks for what a FAMILY's text, or one call, has brought. */
+    private static final int MOST_STATE_MORE = 150;
+
     private final Random chance;
     private final Pair pair = new Pair();
 
@@ -16,7 +19,7 @@ public final class CompareTest {
     }
 
     public static void main(String[] args) {
-        int runs = args.length > 0 ? Integer.parseInt(args[0]) : 1500;
+        int runs = args.length > 0 ? Integer.parseInt(args[0]) : 4000;
         int from = args.length > 1 ? Integer.parseInt(args[1]) : 0;
         for (int i = from; i < from + runs; i++) {
             CompareTest test = new CompareTest(i);
@@ -144,17 +147,23 @@ public final class CompareTest {
         return pair.feedText(text) && pair.same(call, length);
     }
 
+    /** As many calls as an object is used for: the last ones ask for all of the state. */
     private boolean run() {
         boolean same = n(20) != 0 || growOld();
-        for (int i = 0; i < 60 && same; i++) {
-            same = i == 0 && pair.real.many(6) == 0 || n(25) == 0 ? tellText("family", familyText(), 900)
-                : i == 1 || n(12) == 0 ? tellText("years", steps(0), 320)
+        for (int i = 0; same && hasRoom(0); i++) {
+            same = i == 0 && pair.plain.s.year == 0 || n(25) == 0 ? tellText("family", familyText(), 900)
+                : i == 1 || n(20) == 0 ? tellText("years", steps(0), 320)
                 : one();
-            if (same && n(6) == 0) {
+            if (same && n(15) == 0 && hasRoom(pair.callsOfState())) {
                 same = pair.sameState();
             }
         }
         return same && pair.sameState();
+    }
+
+    /** A text and its calls are fewer than sixty. */
+    private boolean hasRoom(int more) {
+        return pair.left() > pair.callsOfState() + more + 60 + MOST_STATE_MORE;
     }
 
     /** To YEAR 9,900 and somewhat more, so that those beyond 9,999 are come to. */
@@ -239,7 +248,7 @@ public final class CompareTest {
     private boolean seenCall() {
         int tray = n(4);
         boolean same = pair.same("tray", tray, 1 + n(3), 2 + n(8));
-        int lovers = Integer.bitCount(pair.real.many(8));
+        int lovers = Integer.bitCount(pair.plain.many(8));
         int sum = n(3 * lovers + 1);
         for (int i = 0; i < 4; i++) {
             int damp = in(0, 9);

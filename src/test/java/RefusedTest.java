@@ -14,6 +14,7 @@ public final class RefusedTest {
     private static final Supplier<RustFamily> EMPTY = Scenes::empty;
     private static final Supplier<RustFamily> MIXED = Scenes::mixed;
     private static final Supplier<RustFamily> FULL = Scenes::full;
+    private static final Supplier<RustFamily> SIXTY = Scenes::sixty;
     private static final Supplier<RustFamily> CROWD = Scenes::crowd;
 
     private static final Map<Supplier<RustFamily>, String> UNTOUCHED = new HashMap<>();
@@ -107,8 +108,8 @@ public final class RefusedTest {
         no(MIXED, 4, "7 place 2 of two", x -> x.read(1, 2));
         no(MIXED, 4, "6 place 0 of none", x -> is(x.write(2, 0, 1)));
         no(MIXED, 4, "7 place 0 of none", x -> x.read(2, 0));
-        no(FULL, 4, "6 place 60 of sixty", x -> is(x.write(0, 60, 1)));
-        no(FULL, 4, "7 place 60 of sixty", x -> x.read(0, 60));
+        no(SIXTY, 4, "6 place 60 of sixty", x -> is(x.write(0, 60, 1)));
+        no(SIXTY, 4, "7 place 60 of sixty", x -> x.read(0, 60));
         for (int i = 0; i < 4; i++) {
             int tray = i;
             no(EMPTY, 3, "6 missing at first: " + i, x -> is(x.write(tray, 0, 1)));
@@ -218,7 +219,7 @@ public final class RefusedTest {
         no(MIXED, 3, "17 a missing one", x -> x.copyRust(3));
         no(MIXED, 4, "17 three into two", x -> x.copyRust(1));
         no(MIXED, 4, "17 three into none", x -> x.copyRust(2));
-        no(FULL, 4, "17 eight into seven", x -> x.copyRust(1));
+        no(FULL, 4, "17 eight into seven", x -> x.copyRust(0));
         no(EMPTY, 3, "17 nothing into a missing one", x -> x.copyRust(0));
     }
 
@@ -451,9 +452,9 @@ public final class RefusedTest {
         no(MIXED, 5, what + " -1 twos of none", x -> it.look(x, 2, -1));
         no(MIXED, 5, what + " the least twos", x -> it.look(x, 0, LEAST));
         no(MIXED, 5, what + " a damp of 10", x -> it.look(x, 0, 2));
-        no(FULL, 5, what + " 21 twos, though they are there", x -> it.look(x, 0, 21));
-        no(FULL, 5, what + " 30 twos, though they are there", x -> it.look(x, 0, 30));
-        no(FULL, 4, what + " 31 twos of 30", x -> it.look(x, 0, 31));
+        no(SIXTY, 5, what + " 21 twos, though they are there", x -> it.look(x, 0, 21));
+        no(SIXTY, 5, what + " 30 twos, though they are there", x -> it.look(x, 0, 30));
+        no(SIXTY, 4, what + " 31 twos of 30", x -> it.look(x, 0, 31));
         for (int sort = 0; sort < 4; sort++) {
             no(twos(sort, 10, 0), 5, what + " a damp of 10, sort " + sort, x -> it.look(x, 0, 1));
             no(twos(sort, -1, 0), 5, what + " a damp of -1, sort " + sort, x -> it.look(x, 0, 1));
@@ -497,6 +498,8 @@ public final class RefusedTest {
         no(MIXED, 8, "38 it does not show in the dead", x -> x.sure(1, 0, 1));
         no(MIXED, 8, "38 it does not show in who is not of the line", x -> x.sure(2, 0, 1));
         no(MIXED, 5, "38 a damp of 10 ahead of one in whom it does not show", x -> x.sure(2, 0, 2));
+        no(MIXED, 3, "38 a missing one ahead of one in whom it does not show", x -> x.sure(2, 3, 0));
+        no(MIXED, 4, "38 too few ahead of one in whom it does not show", x -> x.sure(2, 0, 3));
         no(MIXED, 8, "38 not the same in all", x -> x.sure(0, 0, 0));
         no(twos(0, 4, 4), 8, "38 no way", x -> x.sure(0, 0, 1));
         no(twos(0, 2, 1), 8, "38 by 2 or by 3", x -> x.sure(0, 0, 1));
@@ -528,6 +531,7 @@ public final class RefusedTest {
         for (int n : none) {
             no(MIXED, 2, "41 person " + n, x -> x.keeps(1, n));
             no(MIXED, 2, "41 the person ahead of the set " + n, x -> x.keeps(-1, n));
+            no(MIXED, 2, "41 the person ahead of too few things " + n, x -> x.keeps(7, n));
             no(MIXED, 2, "42 person " + n, x -> x.stable(1, n));
             no(MIXED, 2, "42 the person ahead of the set " + n, x -> x.stable(-1, n));
         }
@@ -547,6 +551,7 @@ public final class RefusedTest {
         }
         no(MIXED, 5, "42 he is not in it", x -> x.stable(5, 1));
         no(MIXED, 5, "42 nobody is in it", x -> x.stable(0, 0));
+        no(MIXED, 5, "42 he is not in it, ahead of nothing", x -> x.stable(1, 2));
         no(MIXED, 8, "42 who loves nothing keeps nothing", x -> x.stable(7, 2));
         no(MIXED, 8, "42 who loves what is through alone", x -> x.stable(7, 1));
         no(of("person a age 0;person b age 0;thing c thick 1;loves a c 2;loves b c 1;"), 8,

@@ -23,11 +23,11 @@ public final class RoomTest {
         Check.due("objects of a used one, here " + used.objects.size(), used.objects.size() <= 250, true);
         Check.due("places of a used one, here " + used.places, used.places <= 5000, true);
         long before = allocated();
-        for (int i = 0; i < 20; i++) {
+        for (int i = 0; i < 10; i++) {
             useAll(x);
         }
         // The texts of this test itself are what is made here, and some of the machine's own.
-        long each = (allocated() - before) / 20;
+        long each = (allocated() - before) / 10;
         Check.due("bytes that all calls together make, here " + each, each < 5000, true);
         Check.end("RoomTest");
     }

@@ -45,7 +45,7 @@ final class Scenes {
         return x;
     }
 
-    /** Six PEOPLE, eight THINGS, three MARKS, 900 bytes on the tape, a TRAY of sixty numbers, the YEAR 9,999. */
+    /** Six PEOPLE, eight THINGS, three MARKS, 900 bytes on the tape, the YEAR 9,999, a TRAY of seven numbers. */
     static RustFamily full() {
         RustFamily x = new RustFamily();
         Texts.family(x, FULL_FAMILY);
@@ -58,12 +58,19 @@ final class Scenes {
             }
         }
         x.mark();
-        x.tray(0, 0, 60);
-        x.write(0, 59, 100);
-        x.tray(1, 3, 7);
+        x.tray(0, 3, 7);
         for (int i = 0; i < 45; i++) {
             Texts.feed(x, "year 9;oil gate;    ");
         }
+        return x;
+    }
+
+    /** One in whom it SHOWS, a TRAY of sixty numbers. */
+    static RustFamily sixty() {
+        RustFamily x = new RustFamily();
+        x.born(50, true);
+        x.tray(0, 0, 60);
+        x.write(0, 59, 100);
         return x;
     }
 

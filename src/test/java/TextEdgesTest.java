@@ -7,6 +7,8 @@ public final class TextEdgesTest {
 
     public static void main(String[] args) {
         bytes();
+        signs();
+        wordsBeside();
         digits();
         nameLetters();
         nameTaken();
@@ -69,6 +71,75 @@ public final class TextEdgesTest {
                 faultOfYears(one, begins ? 2 : 1, 0);
                 fault("damp 4;" + one, begins ? 2 : 1, 7);
             }
+        }
+    }
+
+    /** Where one SIGN is due, no other one, and no NUMBER that is as much as its byte. */
+    private static void signs() {
+        String[] parts = {"shows 4", "life 4", "damp 4", "breath 4", "person c age 4", "person c age 4 of",
+            "thing c thick 4", "thing c thick 4 coat 4", "loves a b 4"};
+        String[] steps = {"year 1", "oil b", "loves a b 1", "damp 1", "coat b 1", "mend b", "any", "when through b",
+            "when rust b<1", "when shows a", "loop 1", "loop 1;end", "stop"};
+        String[] others = {"<", ">", "=", "59", "any"};
+        for (String other : others) {
+            for (String part : parts) {
+                fault(TWO + part + " " + other, 2, TWO.length() + part.length() + 1);
+            }
+            for (String step : steps) {
+                faultOfYears(step + " " + other, 2, step.length() + 1);
+            }
+        }
+        String[] tests = {";", "<", ">", "=", "59", "any", "b", "a"};
+        for (String other : tests) {
+            faultOfYears("when " + other + ";end;", 2, 5);
+        }
+        String[] compares = {";", "60", "61", "62", "any"};
+        for (String other : compares) {
+            faultOfYears("when rust b " + other + " 1;end;", 2, 12);
+        }
+    }
+
+    /** Words by one letter unlike those that are due. */
+    private static void wordsBeside() {
+        String[] parts = {"shows 4;", "life 4;", "damp 4;", "breath 4;", "person c age 4;", "thing c thick 4;",
+            "loves a b 4;"};
+        for (String part : parts) {
+            beside(TWO, part, part.indexOf(' '), false);
+        }
+        beside(TWO + "person c ", "age 4;", 3, false);
+        beside(TWO + "person c age 4 ", "of;", 2, false);
+        beside(TWO + "thing c ", "thick 4;", 5, false);
+        beside(TWO + "thing c thick 4 ", "coat 4;", 4, false);
+        String[] steps = {"year 1;", "oil b;", "loves a b 4;", "damp 1;", "coat b 1;", "mend b;", "any;",
+            "when through b;end;", "loop 1;end;", "stop;"};
+        for (String step : steps) {
+            beside("", step, step.indexOf(step.indexOf(' ') < 0 ? ';' : ' '), true);
+        }
+        beside("when ", "through b;end;", 7, true);
+        beside("when ", "rust b<1;end;", 4, true);
+        beside("when ", "shows a;end;", 5, true);
+        beside("loop 1;", "end;", 3, true);
+    }
+
+    private static void beside(String ahead, String text, int letters, boolean ofYears) {
+        for (int i = 0; i <= letters; i++) {
+            String behind = text.substring(i);
+            String more = ahead + text.substring(0, i) + "z" + behind;
+            faultBeside(more, ahead.length(), ofYears);
+            if (i < letters) {
+                faultBeside(ahead + text.substring(0, i) + "z" + behind.substring(1), ahead.length(), ofYears);
+            }
+            if (i < letters && letters > 1) {
+                faultBeside(ahead + text.substring(0, i) + behind.substring(1), ahead.length(), ofYears);
+            }
+        }
+    }
+
+    private static void faultBeside(String text, int place, boolean ofYears) {
+        if (ofYears) {
+            faultOfYears(text, 2, place);
+        } else {
+            fault(text, 2, place);
         }
     }
 
@@ -263,6 +334,17 @@ public final class TextEdgesTest {
         Texts.feed(x, "damp 6;damp");
         Check.refused(x, "10 cut in a word", x.family(9), 10);
         Check.due("12 the word that is left", x.fault(1), 7);
+        Texts.feed(x, "damp 6;");
+        Check.refused(x, "10 cut ahead of a word's last letter", x.family(3), 10);
+        Check.due("12 the word without it", x.fault(0), 2);
+        Check.due("12 the word without it stands there", x.fault(1), 0);
+        Texts.feed(x, "damp 12345;");
+        Check.refused(x, "10 cut behind four digits", x.family(9), 10);
+        Check.due("12 four digits", x.fault(0), 4);
+        Texts.feed(x, "damp 10;");
+        Check.refused(x, "10 cut behind one digit", x.family(6), 10);
+        Check.due("12 one digit, then the end", x.fault(0), 2);
+        Check.due("12 one digit, then the end's place", x.fault(1), 6);
     }
 
     private static void endsOfYears() {
@@ -412,6 +494,13 @@ public final class TextEdgesTest {
         faultOfYears("when shows a;when shows a;when shows a;when shows a;", 7, 39);
         faultOfYears("loop 1;when shows a;loop 1;when", 7, 27);
         faultOfYears("loop 1;when shows a;when shows a;loop", 7, 33);
+        // What was read of YEARS with a FAULT is not within those that are read next.
+        RustFamily x = Check.with(TWO);
+        Check.faultOfYears(x, "loop 1;loop 1;loop 1;loop 1;", 7, 21);
+        Check.fine(x, "11 three again", Texts.years(x, "loop 1;loop 1;loop 1;end;end;end;"), 3);
+        Check.faultOfYears(x, "loop 1;any;", 2, 11);
+        Check.fine(x, "11 none is within", Texts.years(x, "any;any;"), 2);
+        Check.faultOfYears(x, "end;", 2, 0);
         // What has its end is not within it any more.
         takenYears("loop 1;loop 1;loop 1;end;loop 1;end;end;loop 1;loop 1;end;end;end;", 6);
         faultOfYears("loop 1;loop 1;loop 1;end;loop 1;loop 1;", 7, 32);
@@ -464,6 +553,13 @@ public final class TextEdgesTest {
         Check.due("10 nothing has rust", x.many(11), 0);
         Check.refused(x, "10 there are no years told", x.live(0), 8);
         Check.due("10 what was lived is told yet", x.lived(1), 1);
+        Texts.years(x, "year 1;");
+        Texts.family(x, "");
+        Check.refused(x, "10 no years by the next", x.live(0), 8);
+        Texts.family(x, "");
+        Check.refused(x, "10 no years by the one behind it", x.live(0), 8);
+        Check.refused(x, "51 nor mean", x.mean(0, 1), 8);
+        Texts.family(x, "life 1;person a age 119 of;thing b thick 1 coat 1;loves a b 9;");
         Check.fine(x, "18 he dies in a year", x.year(1), 0);
         Check.due("18 dead", x.many(7), 0);
     }
